@@ -1,0 +1,121 @@
+import com.sun.management.ThreadMXBean;
+import java.lang.management.ManagementFactory;
+import java.lang.reflect.Field;
+import java.lang.reflect.Method;
+import java.lang.reflect.Modifier;
+import java.nio.file.Files;
+import java.nio.file.Path;
+import java.util.Arrays;
+import java.util.List;
+import java.util.Set;
+import java.util.TreeSet;
+import java.util.stream.Collectors;
+
+/** The public face, the rules of the language that a test can see, and that no call makes anything. */
+final class LanguageTest {
+    private static final List<String> FACE = List.of("int letter(int)", "int blank()", "int fault()", "int house()",
+        "int about(int,int)", "int as(int,int)", "int bed()", "int coffee(int)", "int lecture(int)", "int hour()",
+        "int cups(int,int)", "int lectures(int,int,int)", "int sunday(int)", "int see(int,int)", "int forget()",
+        "int nights(int,int,int)", "int image()", "int restore()", "int count(int)", "long digest()");
+
+    public static void main(String[] args) throws Exception {
+        face();
+        constants();
+        names();
+        words();
+        room();
+        Due.end();
+    }
+
+    private static String told(Method method) {
+        String parameters = Arrays.stream(method.getParameterTypes()).map(Class::getName)
+            .collect(Collectors.joining(",", "(", ")"));
+        return method.getReturnType().getName() + " " + method.getName() + parameters;
+    }
+
+    private static void face() throws Exception {
+        Set<String> found = new TreeSet<>();
+        for (Method method : WakefulBed.class.getDeclaredMethods()) {
+            if (Modifier.isPublic(method.getModifiers())) {
+                Due.isTrue(method + " is the object's", !Modifier.isStatic(method.getModifiers()));
+                found.add(told(method));
+            } else if (!method.isSynthetic()) {
+                Due.isTrue(method + " is private", Modifier.isPrivate(method.getModifiers()));
+            }
+        }
+        Due.isTrue("the face: " + found, found.equals(new TreeSet<>(FACE)));
+        Due.isTrue("the class is public and final",
+            (WakefulBed.class.getModifiers() & (Modifier.PUBLIC | Modifier.FINAL)) == (Modifier.PUBLIC | Modifier.FINAL));
+        Due.due("constructors", WakefulBed.class.getDeclaredConstructors().length, 1);
+        Due.isTrue("its constructor is public", Modifier.isPublic(
+            WakefulBed.class.getDeclaredConstructor().getModifiers()));
+        Due.isTrue("some twelve classes", WakefulBed.class.getDeclaredClasses().length <= 11);
+        for (Class<?> inside : WakefulBed.class.getDeclaredClasses()) {
+            Due.isTrue(inside + " is static, and not public", Modifier.isStatic(inside.getModifiers())
+                && !Modifier.isPublic(inside.getModifiers()) && !Modifier.isProtected(inside.getModifiers()));
+        }
+    }
+
+    private static void constants() {
+        Due.due("NONE", WakefulBed.NONE, -1);
+        Due.due("UNKNOWN", WakefulBed.UNKNOWN, -101);
+        Due.due("OUTSIDE", WakefulBed.OUTSIDE, -102);
+        Due.due("STATE", WakefulBed.STATE, -103);
+        Due.due("FULL", WakefulBed.FULL, -104);
+        Set<String> constants = Set.of("NONE", "UNKNOWN", "OUTSIDE", "STATE", "FULL");
+        for (Field field : WakefulBed.class.getDeclaredFields()) {
+            int flags = field.getModifiers();
+            Due.isTrue(field + " is public", Modifier.isPublic(flags) == constants.contains(field.getName()));
+            Due.isTrue(field + " is private or a constant", Modifier.isPrivate(flags) || Modifier.isPublic(flags));
+            Due.isTrue(field + " is final if static", !Modifier.isStatic(flags) || Modifier.isFinal(flags));
+        }
+    }
+
+    private static void names() {
+        Set<String> ofFace = FACE.stream().map(told -> told.replaceAll(".* |\\(.*", "")).collect(Collectors.toSet());
+        for (Class<?> inside : WakefulBed.class.getDeclaredClasses()) {
+            for (Method method : inside.getDeclaredMethods()) {
+                Due.isTrue(method + " has a name of its own", !ofFace.contains(method.getName()));
+                Due.isTrue(method + " takes at most seven", method.getParameterCount() <= 7);
+            }
+        }
+        for (Method method : WakefulBed.class.getDeclaredMethods()) {
+            Due.isTrue(method + " has a name of its own",
+                Modifier.isPublic(method.getModifiers()) || !ofFace.contains(method.getName()));
+            Due.isTrue(method + " takes at most seven", method.getParameterCount() <= 7);
+        }
+    }
+
+    private static void words() throws Exception {
+        Path file = Path.of(System.getProperty("project.root", "."), "src", "main", "java", "WakefulBed.java");
+        String source = Files.readString(file);
+        for (String word : List.of("package ", "import ", "try ", "catch", "finally", "throw", "->", "::", "assert",
+            "synchronized", "System.", "Exact(", "static {", "Object", "float", "double")) {
+            Due.isTrue("the source has no '" + word + "'", !source.contains(word));
+        }
+    }
+
+    /** All calls of a run live in one room: what the constructor made has to do for all of them. */
+    private static void room() {
+        ThreadMXBean threads = (ThreadMXBean) ManagementFactory.getThreadMXBean();
+        long self = Thread.currentThread().getId();
+        WakefulBed x = Due.house("l4,p3,v5,m2,l1;2");
+        long answers = everyCall(x);
+        long before = threads.getThreadAllocatedBytes(self);
+        for (int round = 0; round < 20; round++) {
+            answers += everyCall(x);
+        }
+        long made = threads.getThreadAllocatedBytes(self) - before;
+        // Measuring itself may make a little; a call that made even one object a round would show.
+        Due.isTrue("bytes made by 20 rounds of calls: " + made + " (" + answers + ")", made < 300);
+    }
+
+    private static long everyCall(WakefulBed x) {
+        long answers = x.blank() + x.letter('l') + x.fault() + x.house();
+        answers += x.as(4, 2) + x.bed() + x.coffee(0) + x.lecture(1) + x.hour();
+        answers += x.cups(0, 6) + x.lectures(0, 3, 1) + x.sunday(0);
+        answers += x.see(3, 2) + x.about(1, 5) + x.about(1, 6) + x.nights(60, 5, 0) + x.forget();
+        answers += x.image() + x.restore() + x.count(4) + x.digest();
+        return answers;
+    }
+}
