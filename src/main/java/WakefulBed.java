@@ -96,9 +96,11 @@ public final class WakefulBed {
             case 4:
                 return now.bedHoursOf(lodger);
             case 5:
-                return guess.possible(now, seen, lodger);
+                guess.make(now, seen, lodger);
+                return guess.possible();
             case 6:
-                return guess.bestLook(now, seen, lodger);
+                guess.make(now, seen, lodger);
+                return guess.bestLook();
             default:
                 return OUTSIDE;
         }
@@ -638,14 +640,12 @@ public final class WakefulBed {
             return MOST_SUNDAY_HOURS;
         }
 
+        // This and settle() look at no index: who calls them has looked, and the calls stay few levels deep.
         private boolean mayLieIn(int lodger) {
-            return knows(lodger) && !asleep[lodger] && kinds[lodger] != WATCHMAN;
+            return !asleep[lodger] && kinds[lodger] != WATCHMAN;
         }
 
         private void settle(int lodger) {
-            if (!knows(lodger)) {
-                return;
-            }
             if (tired[lodger] >= TIRED_ASLEEP) {
                 tired[lodger] = TIRED_ASLEEP;
                 asleep[lodger] = true;
@@ -764,14 +764,23 @@ public final class WakefulBed {
 
         private final Night would;
         private final int[][] beds;
+        private int lodgers;
+        private int bits;
 
         Guess() {
             would = new Night();
             beds = new int[TIRED_DIGITS][LOOKS];
+            lodgers = 0;
+            bits = 0;
         }
 
-        int possible(Night now, Seen seen, int lodger) {
-            int bits = 0;
+        int possible() {
+            return bits;
+        }
+
+        void make(Night now, Seen seen, int lodger) {
+            lodgers = now.lodgers();
+            bits = 0;
             for (int howTired = 0; howTired < TIRED_DIGITS; howTired++) {
                 would.copyFrom(now);
                 would.wakeAs(lodger, howTired);
@@ -779,18 +788,16 @@ public final class WakefulBed {
                     bits |= 1 << howTired;
                 }
             }
-            return bits;
         }
 
-        int bestLook(Night now, Seen seen, int lodger) {
-            int bits = possible(now, seen, lodger);
+        int bestLook() {
             if (bits == 0) {
                 return NONE;
             }
             int best = NONE;
             int fewest = TIRED_DIGITS + 1;
             for (int look = 0; look < LOOKS; look++) {
-                int worst = leftAtWorst(bits, look, now.lodgers());
+                int worst = leftAtWorst(look);
                 if (worst < fewest) {
                     best = look;
                     fewest = worst;
@@ -812,15 +819,15 @@ public final class WakefulBed {
             return isSo;
         }
 
-        private int leftAtWorst(int bits, int look, int lodgers) {
+        private int leftAtWorst(int look) {
             int worst = 0;
             for (int bedOf = NONE; bedOf < lodgers; bedOf++) {
-                worst = Math.max(worst, leftBy(bits, look, bedOf));
+                worst = Math.max(worst, leftBy(look, bedOf));
             }
             return worst;
         }
 
-        private int leftBy(int bits, int look, int bedOf) {
+        private int leftBy(int look, int bedOf) {
             int left = 0;
             for (int howTired = 0; howTired < TIRED_DIGITS; howTired++) {
                 boolean isPossible = (bits >> howTired & 1) == 1;

@@ -33,6 +33,15 @@ final class AllTest {
         Due.due("restore() of the latest", x.restore(), 4);
         Due.due("all is as it was kept later", x.digest(), later);
 
+        WakefulBed sight = Due.house("l4,l2;1");
+        sight.see(0, 0);
+        sight.image();
+        sight.forget();
+        sight.see(0, 1);
+        Due.due("1 was seen", sight.about(0, 5), 0b1111111000);
+        sight.restore();
+        Due.due("0 was seen", sight.about(0, 5), 0b111);
+
         Due.write(x, "l0");
         x.lectures(0, 1, 0);
         x.restore();
@@ -115,6 +124,8 @@ final class AllTest {
         x.lectures(3, 2, 0);
         Due.write(x, "vm");
         Due.due("digest() of all", x.digest(), told(x, "vm"));
+        WakefulBed cups = Due.house("l4,l2;1");
+        Due.due("digest() with cups for 3 hours alone", cups.digest(), told(cups, ""));
         Due.due("digest() changes nothing", x.digest(), told(x, "vm"));
     }
 }

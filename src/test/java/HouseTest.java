@@ -146,6 +146,15 @@ final class HouseTest {
         Due.due("another: restore()", x.restore(), WakefulBed.STATE);
         Due.due("another: forget()", x.forget(), 0);
 
+        WakefulBed sleepers = Due.house("l0,v9;4");
+        Due.pass(sleepers, 2);
+        Due.due("both sleep", sleepers.count(2), 2);
+        Due.due("the first one had the bed", sleepers.about(0, 4), 2);
+        Due.write(sleepers, "l5,v5;1");
+        sleepers.house();
+        Due.due("nobody sleeps", sleepers.count(2), 0);
+        Due.due("nobody had the bed", sleepers.about(0, 4), 0);
+
         WakefulBed y = new WakefulBed();
         y.see(4, WakefulBed.NONE);
         Due.write(y, "m1,p2;4");

@@ -86,6 +86,10 @@ final class SeenTest {
         Due.due("look of two who are alike", x.about(1, 6), 0);
         x.see(1, 1);
         Due.due("look of none", x.about(1, 6), -1);
+        WakefulBed three = Due.house("l4,l2;1");
+        three.see(0, 0);
+        // Of 0, 1 and 2 two keep the bed for an hour; no later hour tells all three apart.
+        Due.due("look of three", three.about(0, 6), 1);
         long before = x.digest();
         x.about(1, 5);
         x.about(1, 6);
@@ -102,6 +106,8 @@ final class SeenTest {
         Due.due("nights(2, 0, 2)", x.nights(2, 0, 2), 1449466924);
         Due.due("nights(1, 2147483647, 2)", x.nights(1, Integer.MAX_VALUE, 2), 288979989);
         Due.due("nights() changed nothing", x.digest(), before);
+        // The same draws: coffee makes 0 like 1, and the lecture takes the bed from him.
+        Due.due("a lecture behind the coffee", Due.house("l3,l0;1").nights(1, 0, 0), 0);
         WakefulBed two = Due.house("w9,w9;1");
         Due.due("watchmen sleep", two.nights(1, 0, 1), 1);
         Due.due("the watchman 0 never has it", two.nights(60, 0, 0), 0);

@@ -59,6 +59,9 @@ final class WouldBeTest {
         Due.due("lectures() gave none", x.count(4), 6);
         Due.due("lectures() passed no hour", x.count(3), 0);
         Due.due("lectures() kept no bed hours", x.about(0, 4), 0);
+        // The bed makes him drowsy: he loses it either behind the first hour, or asleep behind the second.
+        lecturesOf(Due.house("l0,l0;4"), 0, 3, 2, -1);
+        lecturesOf(Due.house("l0,l0;4"), 0, 2, 2, 1);
         // Only a lecture to the third one now makes room: 1 is behind 2 by no more than a lecture.
         lecturesOf(Due.house("w0,l3,l2;1"), 1, 1, 1, 2);
         // Both rivals are less tired by one: no single lecture gets rid of two.
