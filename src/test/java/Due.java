@@ -4,8 +4,18 @@ import java.util.function.LongSupplier;
 final class Due {
     private static int right = 0;
     private static int wrong = 0;
+    private static String ahead = "";
 
     private Due() {
+    }
+
+    /** What is asked from here on is told as of this case. */
+    static void begin(String caseName) {
+        ahead = caseName + ": ";
+    }
+
+    static long asked() {
+        return (long) right + wrong;
     }
 
     static void due(String what, long got, long want) {
@@ -13,7 +23,7 @@ final class Due {
             right++;
         } else {
             wrong++;
-            System.out.println(what + " answered " + got + ", due is " + want);
+            System.out.println(ahead + what + " answered " + got + ", due is " + want);
         }
     }
 
