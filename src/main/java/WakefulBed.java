@@ -556,13 +556,16 @@ public final class WakefulBed {
         }
 
         int whoseBed() {
-            int least = NONE;
+            int bedOf = NONE;
+            int leastTired = TIRED_ASLEEP;
             for (int lodger = 0; lodger < lodgers; lodger++) {
-                if (mayLieIn(lodger) && (least == NONE || tired[lodger] < tired[least])) {
-                    least = lodger;
+                // Who is awake is always less tired than this.
+                if (mayLieIn(lodger) && tired[lodger] < leastTired) {
+                    bedOf = lodger;
+                    leastTired = tired[lodger];
                 }
             }
-            return least;
+            return bedOf;
         }
 
         void giveCoffee(int lodger) {
@@ -614,9 +617,10 @@ public final class WakefulBed {
             int most = NONE;
             for (int one = 0; one < lodgers; one++) {
                 for (int other = one + 1; other < lodgers; other++) {
-                    if (mayLieIn(one) && mayLieIn(other) && hoursTogether(one, other) > most) {
+                    int together = mayLieIn(one) && mayLieIn(other) ? hoursTogether(one, other) : NONE;
+                    if (together > most) {
                         pair = 10 * one + other;
-                        most = hoursTogether(one, other);
+                        most = together;
                     }
                 }
             }
@@ -640,12 +644,15 @@ public final class WakefulBed {
             return MOST_SUNDAY_HOURS;
         }
 
-        // This and settle() look at no index: who calls them has looked, and the calls stay few levels deep.
+        // Looks at the number without knows(): this is the deepest call of all, and calls may go but eight deep.
         private boolean mayLieIn(int lodger) {
-            return !asleep[lodger] && kinds[lodger] != WATCHMAN;
+            return lodger >= 0 && lodger < lodgers && !asleep[lodger] && kinds[lodger] != WATCHMAN;
         }
 
         private void settle(int lodger) {
+            if (!knows(lodger)) {
+                return;
+            }
             if (tired[lodger] >= TIRED_ASLEEP) {
                 tired[lodger] = TIRED_ASLEEP;
                 asleep[lodger] = true;
@@ -784,7 +791,7 @@ public final class WakefulBed {
             for (int howTired = 0; howTired < TIRED_DIGITS; howTired++) {
                 would.copyFrom(now);
                 would.wakeAs(lodger, howTired);
-                if (isAsSeen(seen, howTired)) {
+                if (isAsSeen(seen, beds[howTired])) {
                     bits |= 1 << howTired;
                 }
             }
@@ -807,14 +814,14 @@ public final class WakefulBed {
         }
 
         // Writes down all beds, even behind what isn't seen: a look goes by them.
-        private boolean isAsSeen(Seen seen, int howTired) {
+        private boolean isAsSeen(Seen seen, int[] bedsBehind) {
             boolean isSo = true;
-            for (int look = 0; look < LOOKS; look++) {
+            for (int look = 0; look < bedsBehind.length; look++) {
                 if (look > 0) {
                     would.passHour();
                 }
-                beds[howTired][look] = would.whoseBed();
-                isSo = isSo && seen.allows(look, beds[howTired][look]);
+                bedsBehind[look] = would.whoseBed();
+                isSo = isSo && seen.allows(look, bedsBehind[look]);
             }
             return isSo;
         }
@@ -831,9 +838,14 @@ public final class WakefulBed {
             int left = 0;
             for (int howTired = 0; howTired < TIRED_DIGITS; howTired++) {
                 boolean isPossible = (bits >> howTired & 1) == 1;
-                left += isPossible && beds[howTired][look] == bedOf ? 1 : 0;
+                left += isPossible && bedBehind(look, howTired) == bedOf ? 1 : 0;
             }
             return left;
+        }
+
+        private int bedBehind(int look, int howTired) {
+            boolean isWritten = isWithin(look, 0, LAST_LOOK) && isWithin(howTired, 0, TIRED_DIGITS - 1);
+            return isWritten ? beds[howTired][look] : NONE;
         }
     }
 }

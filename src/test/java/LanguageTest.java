@@ -1,14 +1,19 @@
 import com.sun.management.ThreadMXBean;
 import java.lang.management.ManagementFactory;
 import java.lang.reflect.Field;
+import java.lang.reflect.InvocationTargetException;
 import java.lang.reflect.Method;
 import java.lang.reflect.Modifier;
 import java.nio.file.Files;
 import java.nio.file.Path;
 import java.util.Arrays;
 import java.util.List;
+import java.util.Map;
 import java.util.Set;
+import java.util.TreeMap;
 import java.util.TreeSet;
+import java.util.regex.Matcher;
+import java.util.regex.Pattern;
 import java.util.stream.Collectors;
 
 /** The public face, the rules of the language that a test can see, and that no call makes anything. */
@@ -23,6 +28,10 @@ final class LanguageTest {
         constants();
         names();
         words();
+        lengths();
+        depths();
+        wildCalls();
+        wildCallsInside();
         room();
         Due.end();
     }
@@ -86,13 +95,118 @@ final class LanguageTest {
         }
     }
 
+    private static String source() throws Exception {
+        return Files.readString(
+            Path.of(System.getProperty("project.root", "."), "src", "main", "java", "WakefulBed.java"));
+    }
+
     private static void words() throws Exception {
-        Path file = Path.of(System.getProperty("project.root", "."), "src", "main", "java", "WakefulBed.java");
-        String source = Files.readString(file);
+        String source = source();
         for (String word : List.of("package ", "import ", "try ", "catch", "finally", "throw", "->", "::", "assert",
             "synchronized", "System.", "Exact(", "static {", "Object", "float", "double")) {
             Due.isTrue("the source has no '" + word + "'", !source.contains(word));
         }
+    }
+
+    /** The lines of each method, by its name; methods of one name in several classes are taken together. */
+    private static Map<String, String> bodies() throws Exception {
+        Map<String, String> bodies = new TreeMap<>();
+        Matcher method = Pattern.compile("(?m)^( +)(?:(?:public|private|static) )*[a-zA-Z\\[\\]]+ (\\w+)\\([^)]*\\) \\{\n"
+            + "((?:.*\n)*?)\\1\\}\n").matcher(source());
+        while (method.find()) {
+            Due.isTrue(method.group(2) + " has some sixty lines at most", method.group(3).lines().count() <= 60);
+            bodies.merge(method.group(2), method.group(3), String::concat);
+        }
+        return bodies;
+    }
+
+    private static void lengths() throws Exception {
+        Set<String> found = bodies().keySet();
+        for (Method method : WakefulBed.class.getDeclaredMethods()) {
+            Due.isTrue("the lines of " + method + " were found", found.contains(method.getName()));
+        }
+        for (Class<?> inside : WakefulBed.class.getDeclaredClasses()) {
+            for (Method method : inside.getDeclaredMethods()) {
+                Due.isTrue("the lines of " + method + " were found", found.contains(method.getName()));
+            }
+        }
+    }
+
+    private static void depths() throws Exception {
+        Map<String, String> bodies = bodies();
+        for (String told : FACE) {
+            String name = told.replaceAll(".* |\\(.*", "");
+            Due.isTrue(name + "() goes at most eight deep", depth(bodies, name, 1) <= 8);
+        }
+    }
+
+    /** The most calls open at once from this one on, leaving out a method's calls of itself. */
+    private static int depth(Map<String, String> bodies, String name, int open) {
+        int deepest = open;
+        Matcher called = Pattern.compile("\\b([a-z]\\w*)\\(").matcher(bodies.get(name));
+        while (called.find() && open <= 20) {
+            String other = called.group(1);
+            if (bodies.containsKey(other) && !other.equals(name)) {
+                deepest = Math.max(deepest, depth(bodies, other, open + 1));
+            }
+        }
+        return deepest;
+    }
+
+    private static final int[] WILD = {Integer.MIN_VALUE, -65536, -104, -2, -1, 0, 1, 2, 3, 4, 5, 6, 9, 10, 12, 13, 18,
+        19, 60, 61, 126, 65536, Integer.MAX_VALUE};
+
+    /** Every call of the face in many states, with numbers that name nothing: nothing is thrown. */
+    private static void wildCalls() throws Exception {
+        for (String text : List.of("", "l", "l0,l0;1", "w9,w9;4", "l9,w2,v3,m4,p5;2", "p0,m0,v0,w0,l0;4")) {
+            WakefulBed x = Cases.written(text);
+            for (int round = 0; round < 3; round++) {
+                for (Method method : WakefulBed.class.getDeclaredMethods()) {
+                    if (Modifier.isPublic(method.getModifiers())) {
+                        throwsNothing(method, x, WILD);
+                    }
+                }
+                x.blank();
+                Due.write(x, text);
+                x.house();
+                Due.pass(x, round);
+            }
+        }
+    }
+
+    /** Every method inside looks at its own numbers, whoever calls it. */
+    private static void wildCallsInside() throws Exception {
+        for (String name : List.of("page", "now", "seen", "nowKept", "seenKept", "would", "plan", "guess")) {
+            for (boolean hasHouse : new boolean[] {false, true}) {
+                Field field = WakefulBed.class.getDeclaredField(name);
+                field.setAccessible(true);
+                for (Method method : field.getType().getDeclaredMethods()) {
+                    if (Arrays.stream(method.getParameterTypes()).allMatch(type -> type == int.class)) {
+                        method.setAccessible(true);
+                        // A fresh object for each, as a wild number may well leave another with wild contents.
+                        throwsNothing(method, field.get(hasHouse ? Cases.rich() : new WakefulBed()), WILD);
+                    }
+                }
+            }
+        }
+    }
+
+    private static void throwsNothing(Method method, Object object, int[] numbers) throws Exception {
+        int parameters = method.getParameterCount();
+        int runs = (int) Math.pow(numbers.length, parameters);
+        String thrown = "";
+        for (int run = 0; run < runs && thrown.isEmpty(); run++) {
+            Object[] arguments = new Object[parameters];
+            for (int place = 0, rest = run; place < parameters; place++, rest /= numbers.length) {
+                arguments[place] = numbers[rest % numbers.length];
+            }
+            try {
+                method.invoke(object, arguments);
+            } catch (InvocationTargetException caught) {
+                thrown = Arrays.toString(arguments) + " threw " + caught.getCause();
+            }
+        }
+        Due.isTrue(method + " throws nothing " + thrown, thrown.isEmpty());
     }
 
     /** All calls of a run live in one room: what the constructor made has to do for all of them. */
