@@ -693,7 +693,7 @@ public final class WakefulBed {
 
         // A lecture to a sleeper is tried, too: it is like none at all, which was tried first and so is preferred.
         private int most(Night from, int lodger, int ahead, int hours) {
-            if (ahead >= hours || ahead >= nights.length) {
+            if (ahead < 0 || ahead >= hours || ahead >= nights.length) {
                 return 0;
             }
             Night night = nights[ahead];

@@ -163,7 +163,7 @@ final class LanguageTest {
             for (int round = 0; round < 3; round++) {
                 for (Method method : WakefulBed.class.getDeclaredMethods()) {
                     if (Modifier.isPublic(method.getModifiers())) {
-                        throwsNothing(method, x, WILD);
+                        throwsNothing(method, x, x);
                     }
                 }
                 x.blank();
@@ -176,29 +176,44 @@ final class LanguageTest {
 
     /** Every method inside looks at its own numbers, whoever calls it. */
     private static void wildCallsInside() throws Exception {
-        for (String name : List.of("page", "now", "seen", "nowKept", "seenKept", "would", "plan", "guess")) {
-            for (boolean hasHouse : new boolean[] {false, true}) {
-                Field field = WakefulBed.class.getDeclaredField(name);
-                field.setAccessible(true);
-                for (Method method : field.getType().getDeclaredMethods()) {
-                    if (Arrays.stream(method.getParameterTypes()).allMatch(type -> type == int.class)) {
-                        method.setAccessible(true);
-                        // A fresh object for each, as a wild number may well leave another with wild contents.
-                        throwsNothing(method, field.get(hasHouse ? Cases.rich() : new WakefulBed()), WILD);
-                    }
+        for (String name : List.of("page", "now", "seen", "plan", "guess")) {
+            Field field = WakefulBed.class.getDeclaredField(name);
+            for (Method method : field.getType().getDeclaredMethods()) {
+                // A fresh object for each, as a wild number may well leave another with wild contents.
+                for (WakefulBed x : List.of(new WakefulBed(), Cases.rich())) {
+                    method.setAccessible(true);
+                    throwsNothing(method, valueOf(x, field), x);
                 }
             }
         }
     }
 
-    private static void throwsNothing(Method method, Object object, int[] numbers) throws Exception {
-        int parameters = method.getParameterCount();
-        int runs = (int) Math.pow(numbers.length, parameters);
+    private static Object valueOf(WakefulBed x, Field field) throws Exception {
+        field.setAccessible(true);
+        return field.get(x);
+    }
+
+    /** What a parameter that is no number may be: of a class inside, what x itself has of it. */
+    private static Object given(Class<?> type, WakefulBed x) throws Exception {
+        for (Field field : WakefulBed.class.getDeclaredFields()) {
+            if (field.getType() == type && type != int.class) {
+                return valueOf(x, field);
+            }
+        }
+        return type == int[].class ? new int[13] : null;
+    }
+
+    private static void throwsNothing(Method method, Object object, WakefulBed x) throws Exception {
+        Class<?>[] types = method.getParameterTypes();
+        long numbers = Arrays.stream(types).filter(type -> type == int.class).count();
+        int runs = (int) Math.pow(WILD.length, numbers);
         String thrown = "";
         for (int run = 0; run < runs && thrown.isEmpty(); run++) {
-            Object[] arguments = new Object[parameters];
-            for (int place = 0, rest = run; place < parameters; place++, rest /= numbers.length) {
-                arguments[place] = numbers[rest % numbers.length];
+            Object[] arguments = new Object[types.length];
+            for (int place = 0, rest = run; place < types.length; place++) {
+                boolean isNumber = types[place] == int.class;
+                arguments[place] = isNumber ? (Object) WILD[rest % WILD.length] : given(types[place], x);
+                rest = isNumber ? rest / WILD.length : rest;
             }
             try {
                 method.invoke(object, arguments);
