@@ -606,7 +606,7 @@ public final class WakefulBed {
         }
 
         boolean keepsBed(int lodger, int hours) {
-            for (int ahead = 1; ahead < hours && whoseBed() == lodger; ahead++) {
+            for (int ahead = 1; ahead < Math.min(hours, MOST_CUP_HOURS) && whoseBed() == lodger; ahead++) {
                 passHour();
             }
             return whoseBed() == lodger;

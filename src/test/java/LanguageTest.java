@@ -156,15 +156,14 @@ final class LanguageTest {
     private static final int[] WILD = {Integer.MIN_VALUE, -65536, -104, -2, -1, 0, 1, 2, 3, 4, 5, 6, 9, 10, 12, 13, 18,
         19, 60, 61, 126, 65536, Integer.MAX_VALUE};
 
-    /** Every call of the face in many states, with numbers that name nothing: nothing is thrown. */
+    /** Every method of the class itself in many states, with numbers that name nothing: nothing is thrown. */
     private static void wildCalls() throws Exception {
         for (String text : List.of("", "l", "l0,l0;1", "w9,w9;4", "l9,w2,v3,m4,p5;2", "p0,m0,v0,w0,l0;4")) {
             WakefulBed x = Cases.written(text);
             for (int round = 0; round < 3; round++) {
                 for (Method method : WakefulBed.class.getDeclaredMethods()) {
-                    if (Modifier.isPublic(method.getModifiers())) {
-                        throwsNothing(method, x, x);
-                    }
+                    method.setAccessible(true);
+                    throwsNothing(method, x, x);
                 }
                 x.blank();
                 Due.write(x, text);
@@ -188,6 +187,10 @@ final class LanguageTest {
         }
     }
 
+    private static boolean isNumber(Class<?> type) {
+        return type == int.class || type == long.class;
+    }
+
     private static Object valueOf(WakefulBed x, Field field) throws Exception {
         field.setAccessible(true);
         return field.get(x);
@@ -196,7 +199,7 @@ final class LanguageTest {
     /** What a parameter that is no number may be: of a class inside, what x itself has of it. */
     private static Object given(Class<?> type, WakefulBed x) throws Exception {
         for (Field field : WakefulBed.class.getDeclaredFields()) {
-            if (field.getType() == type && type != int.class) {
+            if (field.getType() == type) {
                 return valueOf(x, field);
             }
         }
@@ -205,15 +208,15 @@ final class LanguageTest {
 
     private static void throwsNothing(Method method, Object object, WakefulBed x) throws Exception {
         Class<?>[] types = method.getParameterTypes();
-        long numbers = Arrays.stream(types).filter(type -> type == int.class).count();
+        long numbers = Arrays.stream(types).filter(LanguageTest::isNumber).count();
         int runs = (int) Math.pow(WILD.length, numbers);
         String thrown = "";
         for (int run = 0; run < runs && thrown.isEmpty(); run++) {
             Object[] arguments = new Object[types.length];
             for (int place = 0, rest = run; place < types.length; place++) {
-                boolean isNumber = types[place] == int.class;
-                arguments[place] = isNumber ? (Object) WILD[rest % WILD.length] : given(types[place], x);
-                rest = isNumber ? rest / WILD.length : rest;
+                boolean isWild = isNumber(types[place]);
+                arguments[place] = isWild ? (Object) WILD[rest % WILD.length] : given(types[place], x);
+                rest = isWild ? rest / WILD.length : rest;
             }
             try {
                 method.invoke(object, arguments);
